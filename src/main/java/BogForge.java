@@ -102,10 +102,7 @@ public final class BogForge {
     }
 
     public int coal(int burner, int kilograms) {
-        if (!within(burner, 0, BURNERS - 1) || !within(kilograms, 1, MOST_COAL_AT_ONCE)) {
-            return NONE;
-        }
-        return yard.addCoal(burner, kilograms);
+        return within(kilograms, 1, MOST_COAL_AT_ONCE) ? yard.addCoal(burner, kilograms) : NONE;
     }
 
     public int year() {

@@ -55,6 +55,19 @@ public final class BarTest {
         DUE.is("GAP stays: not read yet", x.furnace(1), 0);
         x.blow(1);
         DUE.yes("GAP stays: read", x.furnace(1) > 0);
+        BogForge z = new BogForge();
+        z.bog(100, 0, 0);
+        z.bog(100, 0, 0);
+        z.coal(0, 1_000);
+        Kit.rules(z, Kit.FULL);
+        for (int bog = 0; bog < 2; bog++) {
+            z.dig(bog, 50);
+            z.charge(50, 99);
+            z.blow(11);
+            z.draw();
+        }
+        DUE.is("ORE that is gone comes to no later bar", z.part(1, 0), 0);
+        DUE.is("but what was charged since", z.part(1, 1), 3);
     }
 
     private static void hundredBars() {
@@ -101,6 +114,10 @@ public final class BarTest {
         DUE.is("bar", x.draw(), 1);
         DUE.is("3000 by 1000, not cut", x.bar(1, 0), 3);
         DUE.is("3000 by 1000, not up", x.bar(1, 1), 3);
+        BogForge z = Kit.works();
+        z.test(0, 0, 1);
+        Kit.cleanBar(z, 1);
+        DUE.is("1 by 1000, up", z.bar(0, 1), 1);
         BogForge y = Kit.works();
         Kit.cleanBar(y, 9);
         DUE.is("SPAN at first: least", y.bar(0, 0), 0);
@@ -197,6 +214,10 @@ public final class BarTest {
         DUE.is("more than 9 in all", x.forge(3, 6), -1);
         DUE.is("HEATS stay", x.bar(3, 3), 4);
         DUE.is("just 9 in all", x.forge(3, 5), 0);
+        Kit.cleanBar(x, 99);
+        x.forge(4, 1);
+        DUE.is("96.03, cut", x.bar(4, 0), 96);
+        DUE.is("98.01, up", x.bar(4, 1), 99);
     }
 
     private static void forgeSorts() {

@@ -74,8 +74,8 @@ public final class FurnaceTest {
         x.dig(0, 10_000);
         x.coal(2, 10_000);
         DUE.no("charge(0, 0)", x.charge(0, 0));
-        DUE.no("charge(-1, 1)", x.charge(-1, 1));
-        DUE.no("charge(1, -1)", x.charge(1, -1));
+        DUE.no("charge(-1, 2)", x.charge(-1, 2));
+        DUE.no("charge(2, -1)", x.charge(2, -1));
         DUE.no("charge(5001, 0)", x.charge(5_001, 0));
         DUE.no("charge(0, 5001)", x.charge(0, 5_001));
         DUE.no("charge(greatest, greatest)", x.charge(Integer.MAX_VALUE, Integer.MAX_VALUE));
@@ -193,31 +193,34 @@ public final class FurnaceTest {
         DUE.is("no ORE left", x.furnace(3), 0);
         x.blow(1);
         DUE.is("no more", x.furnace(5), 8);
-        DUE.is("exactly 1,000 reduces", bloomAtHeat(1_000), 3);
-        DUE.is("999 does not", bloomAtHeat(999), 0);
-        DUE.is("exactly 1,300 reduces", bloomAtHeat(1_300), 3);
-        DUE.is("1,301 does not", bloomAtHeat(1_301), 0);
+        lastMinute("999", 999, 0, 0);
+        lastMinute("exactly 1,000", 1_000, 3, 0);
+        lastMinute("exactly 1,300", 1_300, 3, 0);
+        lastMinute("1,301", 1_301, 0, 1);
     }
 
-    /** What one minute reduces whose HEAT comes to be so much with some COAL burnt; ORE comes just before it. */
-    private static int bloomAtHeat(int wanted) {
-        for (int cool = 0; cool < 40; cool++) {
-            for (int air = 1; air <= 9; air++) {
-                for (int before = 8; before < 25; before++) {
+    /** One minute that comes to just so much HEAT with some COAL burnt, after none with SCORCH. */
+    private static void lastMinute(String name, int heat, int bloom, int scorch) {
+        for (int before = 8; before < 15; before++) {
+            for (int cool = 0; cool < 10; cool++) {
+                for (int slow = 0; slow < 90; slow++) {
+                    int last = before + cool + slow % 10;
                     BogForge x = Kit.works();
                     x.charge(0, 1_000);
-                    Kit.rules(x, "m<" + before + ":9;m<" + (before + cool) + ":0;m>0:" + air);
-                    x.blow(before + cool);
+                    Kit.rules(x, "m<" + before + ":9;m<" + (before + cool) + ":0;m<" + last + ":6;m>0:" + (1 + slow / 10));
+                    x.blow(last);
                     x.charge(9, 0);
-                    if (x.blow(1) == wanted && x.furnace(5) + x.furnace(3) == 9) {
-                        DUE.is("SCORCH at " + wanted, x.furnace(7) > 0 && x.furnace(8) == before + cool ? 1 : 0,
-                                wanted > 1_300 && x.furnace(7) == 1 ? 1 : 0);
-                        return x.furnace(5);
+                    if (x.furnace(7) == 0 && x.blow(1) == heat) {
+                        DUE.is(name + ": BLOOM", x.furnace(5), bloom);
+                        DUE.is(name + ": ORE left", x.furnace(3), 9 - bloom);
+                        DUE.is(name + ": SCORCH", x.furnace(7), scorch);
+                        DUE.is(name + ": first MINUTE of it", x.furnace(8), scorch > 0 ? last : -1);
+                        return;
                     }
                 }
             }
         }
-        return -1;
+        DUE.yes(name + " was come to", false);
     }
 
     private static void reducingIsParted() {

@@ -21,7 +21,59 @@ public final class ModelTest {
         for (int run = 0; run < 150; run++) {
             test.play(run);
         }
+        test.playOn();
         test.due.finish();
+    }
+
+    /** Far beyond 512 calls answers are free, but no call may throw. */
+    private void playOn() {
+        random = new Random(5);
+        x = new BogForge();
+        for (int i = 0; i < 6; i++) {
+            x.bog(100_000, 5_000, 0);
+        }
+        for (int i = 0; i < 200_000; i++) {
+            int a = any(8);
+            int b = any(100);
+            x.bog(any(1_000), b, a);
+            x.test(a, b, any(1_001));
+            x.dig(a, b);
+            x.coal(a, any(10_001));
+            if (i % 500 == 0) {
+                x.year();
+                x.clear();
+                x.end(0);
+                Kit.rules(x, i % 1_000 == 0 ? Kit.STEADY : Kit.FULL);
+            }
+            x.feed(any(256), any(256), any(256), any(256), any(256));
+            x.end(any(100));
+            x.fault();
+            x.charge(b, any(400));
+            x.blow(any(30));
+            if (i % 50 == 0) {
+                x.draw();
+            }
+            x.forge(b, a);
+            x.right(a, any(8), b, any(201));
+            x.pay(b, any(1_000_000));
+            x.again(any(60));
+            x.order(any(3), any(20));
+            for (int what = -1; what < 13; what++) {
+                x.furnace(what);
+                x.ground(a, what);
+                x.bar(b, what);
+                x.part(b, what);
+                x.burnt(b, what);
+                x.line(any(5_000), what);
+            }
+            if (i % 20 == 0) {
+                x.met(a);
+                x.want();
+                x.count(any(10));
+            }
+        }
+        due.is("BARS after very many calls", x.count(2), 100);
+        due.is("PAYS after very many calls", x.count(3), 60);
     }
 
     private void play(int run) {

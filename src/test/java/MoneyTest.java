@@ -120,6 +120,17 @@ public final class MoneyTest {
         x.pay(0, 12);
         DUE.is("holder 4 of 12", x.coins(4), 127);
         DUE.is("holder 6 of 12", x.coins(6), 126);
+        BogForge y = mixed();
+        y.bog(10, 0, 0);
+        y.dig(2, 1);
+        y.charge(892, 1_000);
+        Kit.rules(y, Kit.STEADY);
+        y.blow(400);
+        y.draw();
+        DUE.is("a bar with a single kilogram of a bog", y.part(1, 2), 1);
+        y.right(2, 3, 1, 0);
+        y.pay(1, 9);
+        DUE.is("its holder has all", y.coins(3), 9);
         for (int other : new int[] {-1, 8, Integer.MIN_VALUE, Integer.MAX_VALUE}) {
             DUE.is("coins(" + other + ")", x.coins(other), 0);
         }

@@ -9,6 +9,7 @@ public final class TapeTest {
     public static void main(String[] args) {
         feed();
         feedIsFull();
+        everyByteCounts();
         end();
         fault();
         faultAsARegexTellsIt();
@@ -49,6 +50,24 @@ public final class TapeTest {
         DUE.is("one more", Kit.feed(x, " "), -1);
         DUE.is("twenty more", x.feed(-1, -1, -1, -1, -1), -1);
         DUE.is("fault at the end", x.fault(), 200);
+    }
+
+    private static void everyByteCounts() {
+        BogForge x = new BogForge();
+        for (int i = 0; i < 10; i++) {
+            x.feed(-1, -1, -1, -1, i < 9 ? -1 : -256);
+        }
+        DUE.is("199", x.count(7), 199);
+        for (int at = 0; at < 20; at++) {
+            int[] one = new int[5];
+            one[at / 4] = 1 << (24 - 8 * (at % 4));
+            int[] two = one.clone();
+            two[(at / 4 + 1) % 5] = 255;
+            DUE.is("two bytes, one at " + at, x.feed(two[0], two[1], two[2], two[3], two[4]), -1);
+            DUE.is("one byte at " + at, x.feed(one[0], one[1], one[2], one[3], one[4]), 200);
+            DUE.is("one more at " + at, x.feed(one[0], one[1], one[2], one[3], one[4]), -1);
+            x.end(199);
+        }
     }
 
     private static void end() {
