@@ -968,14 +968,12 @@ public final class BogForge {
             for (int i = 0; i < barsKnown; i++) {
                 promised[i] = false;
             }
-            // An order once met stays met as others get bars, so the first orders come first and none is lost.
+            // Some way with as many met as can be comes first; then each order in turn gets its bar for good.
             for (int i = 0; i < size && i < ORDERS; i++) {
                 findBar(i);
             }
             for (int i = 0; i < size && i < ORDERS; i++) {
-                if (barOf[i] != NONE) {
-                    lowerBar(i);
-                }
+                promiseLowest(i);
             }
         }
 
@@ -1018,41 +1016,49 @@ public final class BogForge {
             }
         }
 
-        /** The lowest bar that leaves a bar for each later order that is met. */
-        private void lowerBar(int order) {
-            for (int bar = 0; bar < barOf[order] && bar < barsKnown; bar++) {
-                if ((couldMeet[bar] >> order & 1) != 0 && !promised[bar] && swapTo(order, bar)) {
-                    break;
+        /** The lowest bar with which as many orders stay met; which of the later ones they are plays no part. */
+        private void promiseLowest(int order) {
+            for (int bar = 0; bar < barsKnown; bar++) {
+                boolean free = (couldMeet[bar] >> order & 1) != 0 && !promised[bar];
+                if (free && (barOf[order] == bar || moveTo(order, bar))) {
+                    promised[bar] = true;
+                    return;
                 }
-            }
-            int had = barOf[order];
-            if (had >= 0 && had < BARS) {
-                promised[had] = true;
             }
         }
 
-        private boolean swapTo(int order, int bar) {
+        /** False, and nothing is moved, if fewer orders would be met. */
+        private boolean moveTo(int order, int bar) {
             int old = barOf[order];
-            int other = takenBy[bar];
-            if (old < 0 || old >= BARS) {
-                return false;
+            int loser = takenBy[bar];
+            boolean freesOld = old >= 0 && old < BARS;
+            boolean takesAway = loser >= 0 && loser < ORDERS;
+            if (freesOld) {
+                takenBy[old] = NONE;
             }
-            takenBy[old] = NONE;
+            if (takesAway) {
+                barOf[loser] = NONE;
+            }
             takenBy[bar] = order;
             barOf[order] = bar;
-            if (other < 0 || other >= ORDERS) {
-                return true;
-            }
-            barOf[other] = NONE;
             promised[bar] = true;
-            if (findBar(other)) {
+            if (!freesOld || !takesAway || findBarAfter(order)) {
                 return true;
             }
             promised[bar] = false;
             takenBy[old] = order;
-            takenBy[bar] = other;
+            takenBy[bar] = loser;
             barOf[order] = old;
-            barOf[other] = bar;
+            barOf[loser] = bar;
+            return false;
+        }
+
+        private boolean findBarAfter(int order) {
+            for (int later = order + 1; later < size && later < ORDERS; later++) {
+                if (barOf[later] == NONE && findBar(later)) {
+                    return true;
+                }
+            }
             return false;
         }
 

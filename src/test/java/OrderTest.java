@@ -9,7 +9,9 @@ public final class OrderTest {
         clear();
         fits();
         asMany();
-        firstOrderRatherThanLowerBar();
+        lowerBarOfAnEarlierOrder();
+        anotherOrderInstead();
+        aBarSetFree();
         lowerBars();
         want();
         changesWithBars();
@@ -106,8 +108,8 @@ public final class OrderTest {
         DUE.is("a bar meets one order at most", x.want(), 6);
     }
 
-    /** Order 0 could have bar 0, which is order 1's only one; that both ways meet two leaves order 1 met. */
-    private static void firstOrderRatherThanLowerBar() {
+    /** Order 0 has bar 0, though that is order 1's only one: then order 2 is met instead, and two are met either way. */
+    private static void lowerBarOfAnEarlierOrder() {
         BogForge x = Kit.works();
         Kit.pureIron(x, 0);
         Kit.cleanBar(x, 5);
@@ -115,10 +117,54 @@ public final class OrderTest {
         x.order(1, 5);
         x.order(0, 5);
         x.order(1, 10);
-        DUE.is("met(0)", x.met(0), 1);
-        DUE.is("met(1)", x.met(1), 0);
-        DUE.is("met(2)", x.met(2), -1);
+        DUE.is("met(0)", x.met(0), 0);
+        DUE.is("met(1)", x.met(1), -1);
+        DUE.is("met(2)", x.met(2), 1);
+        DUE.is("MET", x.count(6), 2);
         DUE.is("want()", x.want(), 7);
+        x.clear();
+        x.order(1, 5);
+        x.order(0, 5);
+        DUE.is("not if fewer were met: met(0)", x.met(0), 1);
+        DUE.is("met(1)", x.met(1), 0);
+    }
+
+    /** Bar 0 goes from order 1 to order 0; order 3 is met in its stead, with the bar that order 0 leaves. */
+    private static void anotherOrderInstead() {
+        BogForge x = Kit.works();
+        Kit.pureIron(x, 0);
+        Kit.cleanBar(x, 6);
+        Kit.scorchedBar(x, 6, 4);
+        Kit.scorchedBar(x, 4, 4);
+        x.order(1, 6);
+        x.order(0, 1);
+        x.order(1, 4);
+        x.order(1, 5);
+        DUE.is("met(0)", x.met(0), 0);
+        DUE.is("met(1)", x.met(1), -1);
+        DUE.is("met(2)", x.met(2), 2);
+        DUE.is("met(3)", x.met(3), 1);
+        DUE.is("MET", x.count(6), 3);
+    }
+
+    /** As order 0 has bar 0, order 2 has bar 1 and order 1 bar 3: so bar 2 is order 3's, and nobody has bar 4. */
+    private static void aBarSetFree() {
+        BogForge x = Kit.works();
+        Kit.pureIron(x, 0);
+        Kit.scorchedBar(x, 5, 4);
+        Kit.cleanBar(x, 4);
+        Kit.scorchedBar(x, 6, 15);
+        Kit.cleanBar(x, 2);
+        Kit.scorchedBar(x, 6, 15);
+        x.order(2, 5);
+        x.order(0, 2);
+        x.order(1, 4);
+        x.order(2, 6);
+        DUE.is("met(0)", x.met(0), 0);
+        DUE.is("met(1)", x.met(1), 3);
+        DUE.is("met(2)", x.met(2), 1);
+        DUE.is("met(3)", x.met(3), 2);
+        DUE.is("want()", x.want(), 0);
     }
 
     private static void lowerBars() {
@@ -251,13 +297,8 @@ public final class OrderTest {
             return more > 0;
         }
         for (int i = 0; i < way.length; i++) {
-            if (way[i] >= 0 != than[i] >= 0) {
-                return way[i] >= 0;
-            }
-        }
-        for (int i = 0; i < way.length; i++) {
             if (way[i] != than[i]) {
-                return way[i] < than[i];
+                return than[i] < 0 || way[i] >= 0 && way[i] < than[i];
             }
         }
         return false;

@@ -425,39 +425,27 @@ final class PlainWorks {
                 && bars.get(bar).least.intValueExact() >= orders.get(order)[1];
     }
 
-    /** All of a set can be met if no part of it is more than its bars. */
-    private boolean canAllBeMet(int set, List<Integer> used) {
+    /** All of a set but what some part of it is more than its bars can be met. */
+    private int mostMet(int set, List<Integer> used) {
+        int lacking = 0;
         for (int part = set; part > 0; part = (part - 1) & set) {
-            if (Integer.bitCount(part) > barsFor(part, used)) {
-                return false;
-            }
+            lacking = Math.max(lacking, Integer.bitCount(part) - barsFor(part, used));
         }
-        return true;
+        return Integer.bitCount(set) - lacking;
     }
 
     int[] ways() {
-        int best = 0;
-        for (int set = 0; set < 1 << orders.size(); set++) {
-            // Reversed bits put the first order highest.
-            boolean better = Integer.bitCount(set) > Integer.bitCount(best)
-                    || Integer.bitCount(set) == Integer.bitCount(best)
-                    && Integer.reverse(set) >>> 1 > Integer.reverse(best) >>> 1;
-            if (better && canAllBeMet(set, List.of())) {
-                best = set;
-            }
-        }
+        int later = (1 << orders.size()) - 1;
         int[] has = new int[8];
         Arrays.fill(has, -1);
         List<Integer> used = new ArrayList<>();
+        int most = mostMet(later, used);
         for (int i = 0; i < orders.size(); i++) {
-            if ((best >> i & 1) == 0) {
-                continue;
-            }
-            best &= ~(1 << i);
+            later &= ~(1 << i);
             for (int bar = 0; bar < bars.size() && has[i] < 0; bar++) {
                 if (fits(i, bar) && !used.contains(bar)) {
                     used.add(bar);
-                    if (canAllBeMet(best, used)) {
+                    if (used.size() + mostMet(later, used) == most) {
                         has[i] = bar;
                     } else {
                         used.remove((Integer) bar);
