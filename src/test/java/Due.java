@@ -1,6 +1,9 @@
 /** Counts answers that are not due, prints each, and ends the program with 1 if there was one. */
 final class Due {
     private final String group;
+    private String sentence = "";
+    private int sentences;
+    private int askedOfSentence;
     private int asked;
     private int wrong;
 
@@ -8,11 +11,27 @@ final class Due {
         this.group = group;
     }
 
+    /** The answers from here on are those that this sentence of the document asks for. */
+    void sentence(String words) {
+        endSentence();
+        sentence = " [" + words + "]";
+        sentences++;
+        askedOfSentence = 0;
+    }
+
+    private void endSentence() {
+        if (!sentence.isEmpty() && askedOfSentence == 0) {
+            wrong++;
+            System.out.println(group + sentence + ": nothing was asked");
+        }
+    }
+
     void is(String call, long got, long want) {
         asked++;
+        askedOfSentence++;
         if (got != want) {
             wrong++;
-            System.out.println(group + ": " + call + " answered " + got + ", due is " + want);
+            System.out.println(group + sentence + ": " + call + " answered " + got + ", due is " + want);
         }
     }
 
@@ -25,7 +44,9 @@ final class Due {
     }
 
     void finish() {
-        System.out.println(group + ": " + asked + " answers, " + wrong + " not as due");
+        endSentence();
+        String of = sentences == 0 ? "" : sentences + " sentences, ";
+        System.out.println(group + ": " + of + asked + " answers, " + wrong + " not as due");
         if (wrong != 0 || asked == 0) {
             System.exit(1);
         }
