@@ -575,9 +575,30 @@ public final class EdgeFurnaceTest {
         BogForge x = yards(new int[] {20}, new int[0]);
         DUE.yes("ORE without COAL", x.charge(20, 0));
         DUE.is("ORE", x.furnace(3), 20);
-        BogForge y = yards(new int[0], new int[] {20});
+        DUE.is("COAL", x.furnace(4), 0);
+        DUE.is("the YARD's COAL", x.count(8), 0);
+        for (int burner = 0; burner < 8; burner++) {
+            DUE.is("the YARD's of burner " + burner, x.coal(burner, 1), 1);
+        }
+        BogForge y = new BogForge();
+        y.bog(20, 0, 0);
+        y.bog(20, 0, 0);
+        y.coal(3, 20);
         DUE.yes("COAL without ORE", y.charge(0, 20));
         DUE.is("COAL", y.furnace(4), 20);
+        DUE.is("ORE", y.furnace(3), 0);
+        for (int bog = 0; bog < 2; bog++) {
+            DUE.is("the YARD's of bog " + bog, y.ground(bog, 6), 0);
+        }
+        BogForge z = yards(new int[] {3, 3}, new int[] {99});
+        z.charge(6, 0);
+        z.charge(0, 99);
+        Kit.rules(z, Kit.FULL);
+        z.blow(11);
+        z.draw();
+        DUE.is("one after the other: ORE of bog 0", z.part(0, 0), 2);
+        DUE.is("one after the other: ORE of bog 1", z.part(0, 1), 1);
+        DUE.is("one after the other: COAL", z.burnt(0, 0), 99);
     }
 
     private static void chargeOfMoreThanTheYard() {

@@ -13,6 +13,7 @@ public final class EdgeTapeTest {
         twoHundredBytes();
         moreThanTwoHundred();
         zerosOnAFullTape();
+        oneByteOnAFullTape();
         endOfNothing();
         endInBounds();
         firstBytesAlone();
@@ -148,6 +149,15 @@ public final class EdgeTapeTest {
         x.end(199);
         DUE.is("one and nineteen of 0", x.feed(0, 0, 0, 0, ' '), 200);
         DUE.is("one more and nineteen of 0", x.feed(' ', 0, 0, 0, 0), -1);
+    }
+
+    private static void oneByteOnAFullTape() {
+        DUE.sentence("feed, NONE: more than 200, and each byte but 0 is one more");
+        BogForge x = fullTape();
+        for (int b = 1; b < 256; b++) {
+            DUE.is("byte " + b, x.feed(0, 0, b << 8 * (b % 4), 0, 0), -1);
+        }
+        DUE.is("count(7)", x.count(7), 200);
     }
 
     private static void endOfNothing() {

@@ -230,6 +230,7 @@ public final class OrderTest {
                 int scorch = new int[] {0, 4, 15}[random.nextInt(3)];
                 Kit.scorchedBar(x, 1 + random.nextInt(6), scorch);
             }
+            int[][] had = sortsAndIron(x, bars);
             for (int round = 0; round < 6; round++) {
                 x.clear();
                 int orders = 1 + random.nextInt(bars > 4 ? 6 : 8);
@@ -238,15 +239,24 @@ public final class OrderTest {
                     asked[i] = new int[] {random.nextInt(3), random.nextInt(7)};
                     x.order(asked[i][0], asked[i][1]);
                 }
-                compare(x, asked, bars, "run " + run + "." + round);
+                compare(x, asked, had, "run " + run + "." + round);
             }
         }
     }
 
-    private static void compare(BogForge x, int[][] asked, int bars, String name) {
+    /** Read once, so that a run stays within 512 calls. */
+    private static int[][] sortsAndIron(BogForge x, int bars) {
+        int[][] had = new int[bars][];
+        for (int bar = 0; bar < bars; bar++) {
+            had[bar] = new int[] {x.bar(bar, 2), x.bar(bar, 0)};
+        }
+        return had;
+    }
+
+    private static void compare(BogForge x, int[][] asked, int[][] bars, String name) {
         int[] best = new int[asked.length];
         java.util.Arrays.fill(best, -1);
-        search(x, asked, bars, new int[asked.length], 0, 0, best);
+        search(asked, bars, new int[asked.length], 0, 0, best);
         int met = 0;
         for (int i = 0; i < asked.length; i++) {
             DUE.is(name + ": met(" + i + ")", x.met(i), best[i]);
@@ -256,10 +266,10 @@ public final class OrderTest {
         int want = 0;
         for (int set = 1; set < 1 << asked.length && want == 0; set++) {
             int could = 0;
-            for (int bar = 0; bar < bars; bar++) {
+            for (int[] bar : bars) {
                 boolean any = false;
                 for (int i = 0; i < asked.length; i++) {
-                    any |= (set >> i & 1) == 1 && fit(x, asked[i], bar);
+                    any |= (set >> i & 1) == 1 && fit(asked[i], bar);
                 }
                 could += any ? 1 : 0;
             }
@@ -269,21 +279,21 @@ public final class OrderTest {
         DUE.is(name + ": none wanted if all are met", want == 0 ? 1 : 0, met == asked.length ? 1 : 0);
     }
 
-    private static boolean fit(BogForge x, int[] order, int bar) {
-        return x.bar(bar, 2) <= order[0] && x.bar(bar, 0) >= order[1];
+    private static boolean fit(int[] order, int[] bar) {
+        return bar[0] <= order[0] && bar[1] >= order[1];
     }
 
-    private static void search(BogForge x, int[][] asked, int bars, int[] way, int at, int used, int[] best) {
+    private static void search(int[][] asked, int[][] bars, int[] way, int at, int used, int[] best) {
         if (at == way.length) {
             if (better(way, best)) {
                 System.arraycopy(way, 0, best, 0, way.length);
             }
             return;
         }
-        for (int bar = -1; bar < bars; bar++) {
-            if (bar < 0 || ((used >> bar & 1) == 0 && fit(x, asked[at], bar))) {
+        for (int bar = -1; bar < bars.length; bar++) {
+            if (bar < 0 || ((used >> bar & 1) == 0 && fit(asked[at], bars[bar]))) {
                 way[at] = bar;
-                search(x, asked, bars, way, at + 1, bar < 0 ? used : used | 1 << bar, best);
+                search(asked, bars, way, at + 1, bar < 0 ? used : used | 1 << bar, best);
             }
         }
     }
